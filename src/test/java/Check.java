@@ -78,7 +78,9 @@ final class Check {
   static void finish() {
     endSentence();
     String of = sentences == 0 ? "" : " to " + sentences + " sentences";
-    System.out.println(wrong == 0 ? seen + " answers" + of + ", all as due" : wrong + " of " + seen + " answers not as due");
+    System.out.println(wrong == 0
+        ? seen + " answers" + of + ", all as due"
+        : wrong + " of " + seen + " answers not as due");
     if (wrong != 0) {
       System.exit(1);
     }

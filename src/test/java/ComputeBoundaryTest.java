@@ -391,7 +391,8 @@ final class ComputeBoundaryTest {
 
   private static void funcOutside() {
     Check.sentence("func is not in 0..11;");
-    int[] outside = {MIN, MIN + 1, -65536, -256, -2, -1, 12, 13, 14, 15, 16, 255, 256, 257, 65536, 1 << 24, MAX - 1, MAX};
+    int[] outside = {MIN, MIN + 1, -65536, -256, -2, -1, 12, 13, 14, 15, 16, 255, 256, 257, 65536, 1 << 24,
+        MAX - 1, MAX};
     int[] args = {MIN, -1, 0, 1, MAX};
     for (int func : outside) {
       for (int arg : args) {
@@ -473,6 +474,25 @@ final class ComputeBoundaryTest {
         }
       }
     }
+    fullTable(WindowFrames.FN_ROW_NUMBER, 1, 32);
+    fullTable(WindowFrames.FN_RANK, 1, 32);
+    fullTable(WindowFrames.FN_DENSE_RANK, 1, 32);
+    fullTable(LAG, 0, 31);
+    fullTable(LEAD, 0, 31);
+    fullTable(WindowFrames.FN_FIRST_VALUE, 0, 0);
+    fullTable(WindowFrames.FN_LAST_VALUE, 0, 31);
+    fullTable(SUM, 0, 496);
+    fullTable(COUNT, 1, 32);
+    fullTable(COUNT_STAR, 1, 32);
+    fullTable(WindowFrames.FN_MIN, 0, 0);
+    fullTable(WindowFrames.FN_MAX, 0, 31);
+  }
+
+  private static void fullTable(int func, long first, long last) {
+    WindowFrames w = Fixture.thirtyTwo();
+    Check.due("compute(" + func + ", 0) of 32 rows", w.compute(func, 0), true);
+    Check.due("compute(" + func + ", 0), the first of 32 rows", w.result(0), first);
+    Check.due("compute(" + func + ", 0), the last of 32 rows", w.result(31), last);
   }
 
   private static void argIsForLagAndLead() {

@@ -1,7 +1,17 @@
+import java.util.function.Consumer;
+
 /** Objects in states that the boundary tests begin from, and the frame of a row read back as ids. */
 final class Fixture {
-  /** The specification of {@link #busy} and {@link #full}, as {@link State#spec} tells it. */
+  /** The specification of a new object, as {@link State#spec} tells it. */
+  static final String NEW_SPEC = "spec 1 0 1 0 0 0 2 0 -1";
+  /** The specification of {@link #busy} and {@link #full}. */
   static final String BUSY_SPEC = "spec 2 1 0 3 1 4 3 5 3";
+
+  private static final String NEW_STATE = NEW_SPEC + " rows 0/8 results order";
+  private static final String FULL_STATE = BUSY_SPEC
+      + " rows 8/8 (1 5 50 0) (1 0 60 1) (2 7 0 2) (1 9 80 0) (2 7 90 0) (3 -1 -10 0) (3 -2 -20 0) (3 -3 -30 0)"
+      + " results 80 - - 60 - - -10 -20"
+      + " order 1 3 0 2 4 5 6 7";
 
   private Fixture() {}
 
@@ -29,6 +39,19 @@ final class Fixture {
     w.addRow(3, -3, -30, 0);
     w.compute(WindowFrames.FN_LAG, 1);
     return w;
+  }
+
+  /**
+   * The call leaves a new and a full object as they are known to be. Their state is not read before it: what
+   * the reading itself changes would then be taken for the state.
+   */
+  static void changesNothing(String call, Consumer<WindowFrames> reading) {
+    WindowFrames fresh = new WindowFrames(8);
+    reading.accept(fresh);
+    Check.same(call + " of a new object changes nothing", State.of(fresh), NEW_STATE);
+    WindowFrames full = full();
+    reading.accept(full);
+    Check.same(call + " of a full table changes nothing", State.of(full), FULL_STATE);
   }
 
   /** One partition with these order keys, under the initial specification; row i has the value 2 to the i. */

@@ -320,6 +320,25 @@ final class FrameBoundaryTest {
     return w;
   }
 
+  /** Seven rows in the order of their ids, whatever their keys: only positions count in MODE_ROWS. */
+  private static WindowFrames[] sevens() {
+    WindowFrames unordered = Fixture.keys(4, 9, 1, 1, MIN, MAX, 0);
+    unordered.setOrder(NONE, LAST);
+    WindowFrames someKeys = Fixture.keys(MIN, 0, MAX);
+    WindowFrames noKeys = new WindowFrames(8);
+    for (int i = 0; i < 7; i++) {
+      Fixture.addNullKey(noKeys);
+    }
+    for (int i = 3; i < 7; i++) {
+      Fixture.addNullKey(someKeys);
+    }
+    WindowFrames[] tables = {seven(), unordered, someKeys, noKeys};
+    for (WindowFrames w : tables) {
+      w.setMode(ROWS, WindowFrames.EXCLUDE_NO_OTHERS);
+    }
+    return tables;
+  }
+
   /** Row 3 has the key 10, row 4 too; beside them all keys from 7 to 13; row 8 has none. */
   private static WindowFrames around(int direction, int nulls) {
     WindowFrames w = Fixture.keys(7, 8, 9, 10, 10, 11, 12, 13);
@@ -399,40 +418,43 @@ final class FrameBoundaryTest {
 
   private static void startRowsPreceding() {
     Check.sentence("`MODE_ROWS`: `BOUND_PRECEDING`: pos(s) >= pos(r) - n;");
-    WindowFrames w = seven();
-    start(w, 3, PRECEDING, 0, "3 4 5 6");
-    start(w, 3, PRECEDING, 1, "2 3 4 5 6");
-    start(w, 3, PRECEDING, 2, "1 2 3 4 5 6");
-    start(w, 3, PRECEDING, 3, "0 1 2 3 4 5 6");
-    start(w, 3, PRECEDING, 4, "0 1 2 3 4 5 6");
-    start(w, 0, PRECEDING, 1, "0 1 2 3 4 5 6");
-    start(w, 6, PRECEDING, 5, "1 2 3 4 5 6");
-    for (int row = 0; row < 7; row++) {
-      start(w, row, PRECEDING, MAX, "0 1 2 3 4 5 6");
+    for (WindowFrames w : sevens()) {
+      start(w, 3, PRECEDING, 0, "3 4 5 6");
+      start(w, 3, PRECEDING, 1, "2 3 4 5 6");
+      start(w, 3, PRECEDING, 2, "1 2 3 4 5 6");
+      start(w, 3, PRECEDING, 3, "0 1 2 3 4 5 6");
+      start(w, 3, PRECEDING, 4, "0 1 2 3 4 5 6");
+      start(w, 0, PRECEDING, 1, "0 1 2 3 4 5 6");
+      start(w, 6, PRECEDING, 5, "1 2 3 4 5 6");
+      for (int row = 0; row < 7; row++) {
+        start(w, row, PRECEDING, MAX, "0 1 2 3 4 5 6");
+      }
     }
   }
 
   private static void startRowsCurrent() {
     Check.sentence("`BOUND_CURRENT_ROW`: pos(s) >= pos(r);");
-    WindowFrames w = seven();
-    start(w, 0, CURRENT, 0, "0 1 2 3 4 5 6");
-    start(w, 3, CURRENT, 0, "3 4 5 6");
-    start(w, 4, CURRENT, 0, "4 5 6");
-    start(w, 6, CURRENT, 0, "6");
+    for (WindowFrames w : sevens()) {
+      start(w, 0, CURRENT, 0, "0 1 2 3 4 5 6");
+      start(w, 3, CURRENT, 0, "3 4 5 6");
+      start(w, 4, CURRENT, 0, "4 5 6");
+      start(w, 6, CURRENT, 0, "6");
+    }
   }
 
   private static void startRowsFollowing() {
     Check.sentence("`BOUND_FOLLOWING`: pos(s) >= pos(r) + n.");
-    WindowFrames w = seven();
-    start(w, 3, FOLLOWING, 0, "3 4 5 6");
-    start(w, 3, FOLLOWING, 1, "4 5 6");
-    start(w, 3, FOLLOWING, 3, "6");
-    start(w, 3, FOLLOWING, 4, "");
-    start(w, 6, FOLLOWING, 0, "6");
-    start(w, 6, FOLLOWING, 1, "");
-    for (int row = 0; row < 7; row++) {
-      start(w, row, FOLLOWING, MAX, "");
-      start(w, row, FOLLOWING, MAX - row, "");
+    for (WindowFrames w : sevens()) {
+      start(w, 3, FOLLOWING, 0, "3 4 5 6");
+      start(w, 3, FOLLOWING, 1, "4 5 6");
+      start(w, 3, FOLLOWING, 3, "6");
+      start(w, 3, FOLLOWING, 4, "");
+      start(w, 6, FOLLOWING, 0, "6");
+      start(w, 6, FOLLOWING, 1, "");
+      for (int row = 0; row < 7; row++) {
+        start(w, row, FOLLOWING, MAX, "");
+        start(w, row, FOLLOWING, MAX - row, "");
+      }
     }
   }
 
@@ -541,39 +563,42 @@ final class FrameBoundaryTest {
 
   private static void endRowsPreceding() {
     Check.sentence("`MODE_ROWS`: `BOUND_PRECEDING`: pos(s) <= pos(r) - n;");
-    WindowFrames w = seven();
-    end(w, 3, PRECEDING, 0, "0 1 2 3");
-    end(w, 3, PRECEDING, 1, "0 1 2");
-    end(w, 3, PRECEDING, 3, "0");
-    end(w, 3, PRECEDING, 4, "");
-    end(w, 0, PRECEDING, 0, "0");
-    end(w, 0, PRECEDING, 1, "");
-    for (int row = 0; row < 7; row++) {
-      end(w, row, PRECEDING, MAX, "");
+    for (WindowFrames w : sevens()) {
+      end(w, 3, PRECEDING, 0, "0 1 2 3");
+      end(w, 3, PRECEDING, 1, "0 1 2");
+      end(w, 3, PRECEDING, 3, "0");
+      end(w, 3, PRECEDING, 4, "");
+      end(w, 0, PRECEDING, 0, "0");
+      end(w, 0, PRECEDING, 1, "");
+      for (int row = 0; row < 7; row++) {
+        end(w, row, PRECEDING, MAX, "");
+      }
     }
   }
 
   private static void endRowsCurrent() {
     Check.sentence("`BOUND_CURRENT_ROW`: pos(s) <= pos(r);");
-    WindowFrames w = seven();
-    end(w, 0, CURRENT, 0, "0");
-    end(w, 2, CURRENT, 0, "0 1 2");
-    end(w, 3, CURRENT, 0, "0 1 2 3");
-    end(w, 6, CURRENT, 0, "0 1 2 3 4 5 6");
+    for (WindowFrames w : sevens()) {
+      end(w, 0, CURRENT, 0, "0");
+      end(w, 2, CURRENT, 0, "0 1 2");
+      end(w, 3, CURRENT, 0, "0 1 2 3");
+      end(w, 6, CURRENT, 0, "0 1 2 3 4 5 6");
+    }
   }
 
   private static void endRowsFollowing() {
     Check.sentence("`BOUND_FOLLOWING`: pos(s) <= pos(r) + n.");
-    WindowFrames w = seven();
-    end(w, 3, FOLLOWING, 0, "0 1 2 3");
-    end(w, 3, FOLLOWING, 1, "0 1 2 3 4");
-    end(w, 3, FOLLOWING, 2, "0 1 2 3 4 5");
-    end(w, 3, FOLLOWING, 3, "0 1 2 3 4 5 6");
-    end(w, 3, FOLLOWING, 4, "0 1 2 3 4 5 6");
-    end(w, 6, FOLLOWING, 1, "0 1 2 3 4 5 6");
-    for (int row = 0; row < 7; row++) {
-      end(w, row, FOLLOWING, MAX, "0 1 2 3 4 5 6");
-      end(w, row, FOLLOWING, MAX - row, "0 1 2 3 4 5 6");
+    for (WindowFrames w : sevens()) {
+      end(w, 3, FOLLOWING, 0, "0 1 2 3");
+      end(w, 3, FOLLOWING, 1, "0 1 2 3 4");
+      end(w, 3, FOLLOWING, 2, "0 1 2 3 4 5");
+      end(w, 3, FOLLOWING, 3, "0 1 2 3 4 5 6");
+      end(w, 3, FOLLOWING, 4, "0 1 2 3 4 5 6");
+      end(w, 6, FOLLOWING, 1, "0 1 2 3 4 5 6");
+      for (int row = 0; row < 7; row++) {
+        end(w, row, FOLLOWING, MAX, "0 1 2 3 4 5 6");
+        end(w, row, FOLLOWING, MAX - row, "0 1 2 3 4 5 6");
+      }
     }
   }
 

@@ -205,15 +205,14 @@ final class ReadingBoundaryTest {
 
   private static void readingChangesNothing() {
     Check.sentence("Neither call changes anything.");
-    WindowFrames w = Fixture.full();
     for (int row = -2; row < 34; row++) {
       int at = row;
-      Check.unchanged("result(" + row + ")", w, () -> w.result(at));
-      Check.unchanged("resultIsNull(" + row + ")", w, () -> w.resultIsNull(at));
+      Fixture.changesNothing("result(" + row + ")", w -> w.result(at));
+      Fixture.changesNothing("resultIsNull(" + row + ")", w -> w.resultIsNull(at));
     }
     for (int row : FAR) {
-      Check.unchanged("result(" + row + ")", w, () -> w.result(row));
-      Check.unchanged("resultIsNull(" + row + ")", w, () -> w.resultIsNull(row));
+      Fixture.changesNothing("result(" + row + ")", w -> w.result(row));
+      Fixture.changesNothing("resultIsNull(" + row + ")", w -> w.resultIsNull(row));
     }
   }
 
@@ -299,13 +298,12 @@ final class ReadingBoundaryTest {
 
   private static void rowAtChangesNothing() {
     Check.sentence("The call changes nothing.");
-    WindowFrames w = Fixture.full();
     for (int pos = -2; pos < 34; pos++) {
       int at = pos;
-      Check.unchanged("rowAt(" + pos + ")", w, () -> w.rowAt(at));
+      Fixture.changesNothing("rowAt(" + pos + ")", w -> w.rowAt(at));
     }
     for (int pos : FAR) {
-      Check.unchanged("rowAt(" + pos + ")", w, () -> w.rowAt(pos));
+      Fixture.changesNothing("rowAt(" + pos + ")", w -> w.rowAt(pos));
     }
   }
 }

@@ -1,4 +1,4 @@
-/** The sentences on the specification and of promises 6 to 9 and 14, one test each: what is refused and what is kept. */
+/** The sentences on the specification and of promises 6 to 9 and 14, one test each: refused, accepted, kept. */
 final class SpecificationBoundaryTest {
   private static final int MIN = Integer.MIN_VALUE;
   private static final int MAX = Integer.MAX_VALUE;
@@ -573,10 +573,9 @@ final class SpecificationBoundaryTest {
 
   private static void specFieldChangesNothing() {
     Check.sentence("The call changes nothing.");
-    WindowFrames w = Fixture.busy();
     int[] fields = {MIN, -1, 0, 1, 2, 3, 4, 5, 6, 7, 8, 9, MAX};
     for (int field : fields) {
-      Check.unchanged("specField(" + field + ")", w, () -> w.specField(field));
+      Fixture.changesNothing("specField(" + field + ")", w -> w.specField(field));
     }
   }
 }

@@ -2,7 +2,6 @@
 final class TableBoundaryTest {
   private static final int MIN = Integer.MIN_VALUE;
   private static final int MAX = Integer.MAX_VALUE;
-  private static final String NEW_SPEC = "spec 1 0 1 0 0 0 2 0 -1";
 
   public static void main(String[] args) {
     atMostCapacityRows();
@@ -169,7 +168,7 @@ final class TableBoundaryTest {
     WindowFrames other = Fixture.busy();
     int[] asked = {MIN, 8, 20, 32, MAX};
     for (int capacity : asked) {
-      Check.same("new(" + capacity + ")", State.spec(new WindowFrames(capacity)), NEW_SPEC);
+      Check.same("new(" + capacity + ")", State.spec(new WindowFrames(capacity)), Fixture.NEW_SPEC);
     }
     Check.same("another object keeps its own", State.spec(other), Fixture.BUSY_SPEC);
   }
@@ -201,10 +200,7 @@ final class TableBoundaryTest {
         Check.due("capacity() after clear", w.capacity(), due[i]);
       }
     }
-    WindowFrames w = Fixture.busy();
-    Check.unchanged("capacity()", w, w::capacity);
-    WindowFrames full = Fixture.full();
-    Check.unchanged("capacity() of a full table", full, full::capacity);
+    Fixture.changesNothing("capacity()", w -> w.capacity());
   }
 
   // ---- Promise 3 ----
@@ -238,10 +234,7 @@ final class TableBoundaryTest {
 
   private static void rowCountChangesNothing() {
     Check.sentence("The call changes nothing.");
-    WindowFrames empty = new WindowFrames(8);
-    Check.unchanged("rowCount() of an empty table", empty, empty::rowCount);
-    WindowFrames full = Fixture.full();
-    Check.unchanged("rowCount() of a full table", full, full::rowCount);
+    Fixture.changesNothing("rowCount()", w -> w.rowCount());
   }
 
   // ---- Promise 4 ----
@@ -411,11 +404,24 @@ final class TableBoundaryTest {
         Check.due("rowField(" + row + ", " + field + ")", w.rowField(row, field), 0);
       }
     }
-    w.addRow(1, 1, 1, 0);
-    w.setStart(WindowFrames.BOUND_UNBOUNDED_PRECEDING, 0);
+    String[] due = {"1", "1", "1", "-", "-", "50", "50", "50", "1", "1", "50", "50"};
+    for (int func = 0; func < due.length; func++) {
+      Check.same("compute(" + func + ", 1) without the removed rows", oneRowAfterClear(func), "results " + due[func]);
+    }
+  }
+
+  /** The removed rows stand all around the new one, in its partition and in the last frame that was looked at. */
+  private static String oneRowAfterClear(int func) {
+    WindowFrames w = new WindowFrames(32);
     w.setEnd(WindowFrames.BOUND_UNBOUNDED_FOLLOWING, 0);
-    w.compute(WindowFrames.FN_COUNT_STAR, 0);
-    Check.same("removed rows are in no frame", State.results(w), "results 1");
+    for (int i = 0; i < 32; i++) {
+      w.addRow(0, i % 10, i * 10 - 100, 0);
+    }
+    w.compute(func, 1);
+    w.clear();
+    w.addRow(0, 5, 50, 0);
+    w.compute(func, 1);
+    return State.results(w);
   }
 
   private static void clearBeginsIdsAgain() {
@@ -466,12 +472,12 @@ final class TableBoundaryTest {
     Check.sentence("Calling it on an empty table is allowed and has the same effect.");
     WindowFrames w = new WindowFrames(8);
     w.clear();
-    Check.same("clear of a new object", State.of(w), NEW_SPEC + " rows 0/8 results order");
+    Check.same("clear of a new object", State.of(w), Fixture.NEW_SPEC + " rows 0/8 results order");
     w.compute(WindowFrames.FN_MAX, 0);
     w.clear();
-    Check.same("clear after compute over no rows", State.of(w), NEW_SPEC + " rows 0/8 results order");
+    Check.same("clear after compute over no rows", State.of(w), Fixture.NEW_SPEC + " rows 0/8 results order");
     w.clear();
-    Check.same("clear once more", State.of(w), NEW_SPEC + " rows 0/8 results order");
+    Check.same("clear once more", State.of(w), Fixture.NEW_SPEC + " rows 0/8 results order");
     Check.due("addRow after it", w.addRow(1, 2, 3, 0), 0);
   }
 
@@ -589,11 +595,10 @@ final class TableBoundaryTest {
 
   private static void rowFieldChangesNothing() {
     Check.sentence("The call changes nothing.");
-    WindowFrames w = Fixture.busy();
     int[] numbers = {MIN, -1, 0, 1, 2, 3, 4, 5, 7, 8, 32, MAX};
     for (int row : numbers) {
       for (int field : numbers) {
-        Check.unchanged("rowField(" + row + ", " + field + ")", w, () -> w.rowField(row, field));
+        Fixture.changesNothing("rowField(" + row + ", " + field + ")", w -> w.rowField(row, field));
       }
     }
   }
