@@ -19,6 +19,8 @@ final class LanguageTest {
     rules2To6ForbiddenWords(source);
     rule4ArraysInFieldInitialisers(source);
     rules2And5Types();
+    rule7NoDivision(source);
+    rule8Loops(source);
     rule10NoCallInsideArguments(source);
     rule10Sizes(source);
     rules8And10CallDepth(source);
@@ -80,6 +82,26 @@ final class LanguageTest {
     for (Method method : WindowFrames.class.getDeclaredMethods()) {
       Check.due(method + " answers an array", method.getReturnType().isArray(), false);
       Check.due(method + " takes at most seven", method.getParameterCount() <= 7, true);
+    }
+  }
+
+  /** The class has no need to divide. Whether each index holds is left to reading and to the other tests. */
+  private static void rule7NoDivision(String source) {
+    absent(source, "/");
+    absent(source, "%");
+  }
+
+  /** One form of loop: a counter from 0 up to the rows or to one of them, set nowhere else. */
+  private static void rule8Loops(String source) {
+    absent(source, "\\b(while|do)\\b");
+    for (String line : source.split("\n")) {
+      if (line.matches(".*\\bfor\\b.*")) {
+        Check.due("a counter against a bound: " + line.trim(),
+            line.matches(" *for \\(int (row|other) = 0; \\1 < (count|row); \\1\\+\\+\\) \\{"), true);
+      } else {
+        Check.due("no counter is set here: " + line.trim(),
+            line.matches(".*\\b(?<!int )(row|other)(\\+\\+|--| [-+*]?= ).*|.*(\\+\\+|--)(row|other)\\b.*"), false);
+      }
     }
   }
 
